@@ -636,6 +636,21 @@ public final class CrowdDeskPromises {
         // {L1F x 3}, {L0T, N0T, L1F}, {L0T, N0F, L1F}, {L1F, N0F, N0T}, {L1F, N0F, N0F}.
         y.add(1, 1);
         due("explore(3000) of three", y.explore(3000), 5);
+        // Five atoms, six agents, all different: more than 3000 crowds.
+        CrowdDesk many = new CrowdDesk();
+        for (int atom = 0; atom < 5; atom++) {
+            for (int letter = 0; letter < 6; letter++) {
+                many.coef(letter, (letter % 2 == 0 ? 1 : -1) * (20 - 3 * letter - atom));
+            }
+            many.sum(atom);
+        }
+        many.compile();
+        for (int letter = 0; letter < 6; letter++) {
+            many.add(letter, 1);
+        }
+        due("explore(3000) of very many", many.explore(3000), CrowdDesk.NONE);
+        due("explore(1) of very many", many.explore(1), CrowdDesk.NONE);
+        due("the crowd stays", many.state(5, 4, 0), -1);
     }
 
     private static void recovers() {
