@@ -1,35 +1,5 @@
-import java.util.Objects;
-
 /** Each promise of the document by hand: ordinary inputs, the edges it names, and wrong inputs. */
-public final class CrowdDeskPromises {
-    private static final Class<? extends Exception> ARGUMENT = IllegalArgumentException.class;
-    private static final Class<? extends Exception> STATE = IllegalStateException.class;
-    private static final Class<? extends Exception> INDEX = IndexOutOfBoundsException.class;
-
-    private static int wrong = 0;
-    private static String promise = "";
-
-    private interface Call {
-        Object answer();
-    }
-
-    private static void due(String call, Object got, Object want) {
-        if (!Objects.equals(got, want)) {
-            wrong++;
-            System.out.println(promise + ": " + call + " answered " + got + ", due is " + want);
-        }
-    }
-
-    private static void refused(Class<? extends Exception> want, String what, Call call) {
-        Object got;
-        try {
-            got = call.answer();
-        } catch (RuntimeException e) {
-            got = e.getClass();
-        }
-        due(what, got, want);
-    }
-
+public final class CrowdDeskPromises extends Checks {
     public static void main(String[] args) {
         newObject();
         clear();
@@ -52,29 +22,7 @@ public final class CrowdDeskPromises {
         table();
         rule();
         kind();
-        System.out.println(wrong == 0 ? "all promises hold" : wrong + " answers are not as due");
-        if (wrong != 0) {
-            System.exit(1);
-        }
-    }
-
-    /** x_0 - x_1 >= c, compiled. */
-    private static CrowdDesk difference(int c) {
-        CrowdDesk x = new CrowdDesk();
-        x.coef(0, 1);
-        x.coef(1, -1);
-        x.sum(c);
-        x.compile();
-        return x;
-    }
-
-    /** x_1 is r more than a multiple of m, compiled. */
-    private static CrowdDesk rest(int r, int m) {
-        CrowdDesk x = new CrowdDesk();
-        x.coef(1, 1);
-        x.mod(r, m);
-        x.compile();
-        return x;
+        finish();
     }
 
     private static void looksNew(CrowdDesk x) {
@@ -99,13 +47,13 @@ public final class CrowdDeskPromises {
     }
 
     private static void newObject() {
-        promise = "1 new";
+        sentence("Promise 1 new");
         due("NONE", CrowdDesk.NONE, -1);
         looksNew(new CrowdDesk());
     }
 
     private static void clear() {
-        promise = "2 clear";
+        sentence("Promise 2 clear");
         CrowdDesk x = difference(0);
         x.add(0, 2);
         x.add(1, 1);
@@ -136,7 +84,7 @@ public final class CrowdDeskPromises {
     }
 
     private static void coef() {
-        promise = "3 coef";
+        sentence("Promise 3 coef");
         CrowdDesk x = new CrowdDesk();
         due("coef(0, 20)", x.coef(0, 20), 0);
         due("coef(0, -20)", x.coef(0, -20), 20);
@@ -168,7 +116,7 @@ public final class CrowdDeskPromises {
     }
 
     private static void sum() {
-        promise = "4 sum";
+        sentence("Promise 4 sum");
         CrowdDesk x = new CrowdDesk();
         refused(ARGUMENT, "sum(21)", () -> x.sum(21));
         refused(ARGUMENT, "sum(-21)", () -> x.sum(-21));
@@ -180,8 +128,7 @@ public final class CrowdDeskPromises {
         due("sum(1)", x.sum(1), 5);
         refused(STATE, "sum(1) with 5 atoms", () -> x.sum(1));
         refused(ARGUMENT, "sum(21) with 5 atoms", () -> x.sum(21));
-        CrowdDesk y = new CrowdDesk();
-        fillWithNots(y, 19);
+        CrowdDesk y = nots(19);
         due("sum(0) as node 19", y.sum(0), 19);
         refused(STATE, "sum(0) with 20 nodes", () -> y.sum(0));
         CrowdDesk z = difference(0);
@@ -197,15 +144,8 @@ public final class CrowdDeskPromises {
         due("3 - 1 >= 3", u.truth(), false);
     }
 
-    private static void fillWithNots(CrowdDesk x, int nodes) {
-        x.sum(0);
-        for (int node = 1; node < nodes; node++) {
-            due("combine(2, " + (node - 1) + ", 0)", x.combine(2, node - 1, 0), node);
-        }
-    }
-
     private static void mod() {
-        promise = "5 mod";
+        sentence("Promise 5 mod");
         CrowdDesk x = new CrowdDesk();
         refused(ARGUMENT, "mod(0, 1)", () -> x.mod(0, 1));
         refused(ARGUMENT, "mod(0, 0)", () -> x.mod(0, 0));
@@ -221,8 +161,7 @@ public final class CrowdDeskPromises {
         due("mod(4, 5)", x.mod(4, 5), 4);
         refused(STATE, "mod(0, 2) with 5 atoms", () -> x.mod(0, 2));
         refused(ARGUMENT, "mod(2, 2) with 5 atoms", () -> x.mod(2, 2));
-        CrowdDesk y = new CrowdDesk();
-        fillWithNots(y, 20);
+        CrowdDesk y = nots(20);
         refused(STATE, "mod(0, 2) with 20 nodes", () -> y.mod(0, 2));
         CrowdDesk z = difference(0);
         refused(STATE, "mod(0, 2) when compiled", () -> z.mod(0, 2));
@@ -240,7 +179,7 @@ public final class CrowdDeskPromises {
     }
 
     private static void combine() {
-        promise = "6 combine";
+        sentence("Promise 6 combine");
         CrowdDesk x = new CrowdDesk();
         refused(ARGUMENT, "combine(0, 0, 0) without nodes", () -> x.combine(0, 0, 0));
         x.sum(0);
@@ -258,8 +197,7 @@ public final class CrowdDeskPromises {
         x.compile();
         refused(STATE, "combine(2, 4, 0) when compiled", () -> x.combine(2, 4, 0));
         refused(ARGUMENT, "combine(2, 5, 0) when compiled", () -> x.combine(2, 5, 0));
-        CrowdDesk y = new CrowdDesk();
-        fillWithNots(y, 20);
+        CrowdDesk y = nots(20);
         refused(STATE, "combine(2, 19, 0) with 20 nodes", () -> y.combine(2, 19, 0));
         refused(ARGUMENT, "combine(2, 20, 0) with 20 nodes", () -> y.combine(2, 20, 0));
         for (int first = 0; first < 2; first++) {
@@ -288,7 +226,7 @@ public final class CrowdDeskPromises {
     }
 
     private static void compile() {
-        promise = "7 compile";
+        sentence("Promise 7 compile");
         CrowdDesk x = new CrowdDesk();
         refused(STATE, "compile() without nodes", x::compile);
         x.sum(0);
@@ -323,8 +261,7 @@ public final class CrowdDeskPromises {
         right.combine(2, 0, 0);
         right.combine(2, 1, 0);
         due("the right of NOT is no part", right.compile(), 2);
-        CrowdDesk chain = new CrowdDesk();
-        fillWithNots(chain, 20);
+        CrowdDesk chain = nots(20);
         due("compile() of 20 nodes", chain.compile(), 2);
         due("19 times NOT", chain.truth(), false);
         CrowdDesk wide = new CrowdDesk();
@@ -336,7 +273,7 @@ public final class CrowdDeskPromises {
     }
 
     private static void add() {
-        promise = "8 add";
+        sentence("Promise 8 add");
         CrowdDesk x = new CrowdDesk();
         x.coef(0, 3);
         x.coef(7, -2);
@@ -365,7 +302,7 @@ public final class CrowdDeskPromises {
     }
 
     private static void size() {
-        promise = "9 size";
+        sentence("Promise 9 size");
         CrowdDesk x = difference(0);
         due("size() at first", x.size(), 0);
         x.add(0, 7);
@@ -375,14 +312,8 @@ public final class CrowdDeskPromises {
         due("size() behind sweeps", x.size(), 9);
     }
 
-    private static void expectState(CrowdDesk x, int i, int value, int leads, int opinion) {
-        due("value of agent " + i, x.state(i, 0, 0), value);
-        due("leads of agent " + i, x.state(i, 0, 1), leads);
-        due("opinion of agent " + i, x.state(i, 0, 2), opinion);
-    }
-
     private static void meet() {
-        promise = "10 meet";
+        sentence("Promise 10 meet");
         // s is the greatest of 2, 3 and |1| + 1.
         CrowdDesk x = new CrowdDesk();
         x.coef(0, 2);
@@ -397,38 +328,38 @@ public final class CrowdDeskPromises {
         refused(INDEX, "meet(-1, 0)", () -> x.meet(-1, 0));
         refused(INDEX, "meet(5, 4)", () -> x.meet(5, 4));
         due("meet(1, 0)", x.meet(1, 0), true);
-        expectState(x, 1, 3, 1, 1);
-        expectState(x, 0, 1, 0, 1);
+        expectState(x, 1, 0, 3, 1, 1);
+        expectState(x, 0, 0, 1, 0, 1);
         due("meet(1, 0) again", x.meet(1, 0), false);
         due("meet(0, 1)", x.meet(0, 1), false);
         due("meet(0, 2)", x.meet(0, 2), true);
-        expectState(x, 0, 0, 0, 0);
-        expectState(x, 2, -2, 1, 0);
+        expectState(x, 0, 0, 0, 0, 0);
+        expectState(x, 2, 0, -2, 1, 0);
         due("meet(3, 2)", x.meet(3, 2), true);
-        expectState(x, 3, -3, 1, 0);
-        expectState(x, 2, -2, 0, 0);
+        expectState(x, 3, 0, -3, 1, 0);
+        expectState(x, 2, 0, -2, 0, 0);
         due("meet(2, 0), neither leads", x.meet(2, 0), false);
         due("meet(0, 1) changes an opinion alone", x.meet(0, 1), true);
-        expectState(x, 0, 0, 0, 1);
-        expectState(x, 1, 3, 1, 1);
+        expectState(x, 0, 0, 0, 0, 1);
+        expectState(x, 1, 0, 3, 1, 1);
         due("meet(4, 1)", x.meet(4, 1), true);
-        expectState(x, 4, 0, 1, 0);
-        expectState(x, 1, 0, 0, 0);
+        expectState(x, 4, 0, 0, 1, 0);
+        expectState(x, 1, 0, 0, 0, 0);
         CrowdDesk y = rest(2, 3);
         y.add(1, 4);
         y.meet(0, 1);
-        expectState(y, 0, 2, 1, 1);
-        expectState(y, 1, 0, 0, 1);
+        expectState(y, 0, 0, 2, 1, 1);
+        expectState(y, 1, 0, 0, 0, 1);
         due("meet(0, 2)", y.meet(0, 2), true);
-        expectState(y, 0, 0, 1, 0);
-        expectState(y, 2, 0, 0, 0);
+        expectState(y, 0, 0, 0, 1, 0);
+        expectState(y, 2, 0, 0, 0, 0);
         due("meet(1, 3)", y.meet(1, 3), true);
-        expectState(y, 3, 1, 1, 0);
-        expectState(y, 1, 0, 0, 0);
+        expectState(y, 3, 0, 1, 1, 0);
+        expectState(y, 1, 0, 0, 0, 0);
     }
 
     private static void sweep() {
-        promise = "11 sweep";
+        sentence("Promise 11 sweep");
         CrowdDesk x = rest(0, 2);
         refused(ARGUMENT, "sweep(0)", () -> x.sweep(0));
         refused(ARGUMENT, "sweep(-1)", () -> x.sweep(-1));
@@ -439,11 +370,11 @@ public final class CrowdDeskPromises {
         x.add(1, 2);
         // 0 meets 1: value 0, both true. 0 meets 2: value 1, both false. 1 meets 2: nothing.
         due("sweep(1)", x.sweep(1), 2);
-        expectState(x, 0, 1, 1, 0);
-        expectState(x, 1, 0, 0, 1);
+        expectState(x, 0, 0, 1, 1, 0);
+        expectState(x, 1, 0, 0, 0, 1);
         // 0 meets 1, which then thinks false.
         due("sweep(1) again", x.sweep(1), 1);
-        expectState(x, 1, 0, 0, 0);
+        expectState(x, 1, 0, 0, 0, 0);
         due("sweep(500)", x.sweep(500), 0);
         CrowdDesk y = rest(0, 2);
         y.add(1, 3);
@@ -453,9 +384,9 @@ public final class CrowdDeskPromises {
         z.add(1, 3);
         z.meet(2, 0);
         z.meet(2, 1);
-        expectState(z, 2, 1, 1, 0);
+        expectState(z, 2, 0, 1, 1, 0);
         due("sweep(1), leader last", z.sweep(1), 1);
-        expectState(z, 0, 0, 0, 0);
+        expectState(z, 0, 0, 0, 0, 0);
         // Two atoms that change in one meeting are one change.
         CrowdDesk two = new CrowdDesk();
         two.sum(0);
@@ -474,7 +405,7 @@ public final class CrowdDeskPromises {
     }
 
     private static void output() {
-        promise = "12 output";
+        sentence("Promise 12 output");
         CrowdDesk x = new CrowdDesk();
         x.coef(0, 1);
         x.sum(1);
@@ -502,7 +433,7 @@ public final class CrowdDeskPromises {
     }
 
     private static void state() {
-        promise = "13 state";
+        sentence("Promise 13 state");
         CrowdDesk x = new CrowdDesk();
         x.coef(0, 20);
         x.sum(-20);
@@ -531,7 +462,7 @@ public final class CrowdDeskPromises {
     }
 
     private static void truth() {
-        promise = "14 truth";
+        sentence("Promise 14 truth");
         CrowdDesk x = new CrowdDesk();
         x.coef(0, 20);
         x.coef(7, -20);
@@ -553,7 +484,7 @@ public final class CrowdDeskPromises {
     }
 
     private static void silent() {
-        promise = "15 silent";
+        sentence("Promise 15 silent");
         CrowdDesk x = rest(0, 2);
         x.add(1, 1);
         due("silent() of one", x.silent(), true);
@@ -584,7 +515,7 @@ public final class CrowdDeskPromises {
     }
 
     private static void agree() {
-        promise = "16 agree";
+        sentence("Promise 16 agree");
         CrowdDesk x = difference(1);
         due("agree() of nobody", x.agree(), true);
         x.add(0, 1);
@@ -606,7 +537,7 @@ public final class CrowdDeskPromises {
     }
 
     private static void explore() {
-        promise = "17 explore";
+        sentence("Promise 17 explore");
         CrowdDesk x = new CrowdDesk();
         x.sum(0);
         refused(STATE, "explore(1) when not compiled", () -> x.explore(1));
@@ -654,7 +585,7 @@ public final class CrowdDeskPromises {
     }
 
     private static void recovers() {
-        promise = "18 recovers";
+        sentence("Promise 18 recovers");
         CrowdDesk x = rest(0, 2);
         refused(STATE, "recovers() at first", x::recovers);
         x.add(1, 3);
@@ -690,7 +621,7 @@ public final class CrowdDeskPromises {
     }
 
     private static void table() {
-        promise = "19 table";
+        sentence("Promise 19 table");
         CrowdDesk x = new CrowdDesk();
         x.sum(0);
         x.coef(1, 1);
@@ -711,7 +642,7 @@ public final class CrowdDeskPromises {
     }
 
     private static void rule() {
-        promise = "20 rule";
+        sentence("Promise 20 rule");
         CrowdDesk x = new CrowdDesk();
         x.sum(0);
         x.coef(1, 1);
@@ -744,7 +675,7 @@ public final class CrowdDeskPromises {
     }
 
     private static void kind() {
-        promise = "21 kind";
+        sentence("Promise 21 kind");
         CrowdDesk x = new CrowdDesk();
         x.coef(0, -1);
         x.coef(1, 1);
