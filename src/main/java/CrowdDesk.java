@@ -342,7 +342,6 @@ public final class CrowdDesk {
             modulus = newModulus;
             target = newTarget;
             bound = Math.abs(newTarget) + 1;
-            states = 0;
             for (int letter = 0; letter < LETTERS; letter++) {
                 coefficients[letter] = newCoefficients[letter];
                 bound = Math.max(bound, Math.abs(newCoefficients[letter]));

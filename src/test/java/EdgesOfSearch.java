@@ -193,6 +193,15 @@ public final class EdgesOfSearch extends Checks {
             }
             due("explore(3000) of any order", x.explore(3000), 14);
         }
+        // The opinion of the one that does not lead goes to and fro, so the first crowd comes again.
+        CrowdDesk again = even(3);
+        again.meet(0, 1);
+        due("explore(3000) of a crowd that comes again", again.explore(3000), 4);
+        due("explore(4)", again.explore(4), 4);
+        due("explore(3)", again.explore(3), CrowdDesk.NONE);
+        CrowdDesk inOrder = even(3);
+        inOrder.meet(2, 0);
+        due("explore(3000) of it in another order", inOrder.explore(3000), 4);
         CrowdDesk x = new CrowdDesk();
         x.coef(0, 1);
         x.sum(1);
