@@ -12,6 +12,8 @@ import java.util.Collections;
 import java.util.HashSet;
 import java.util.List;
 import java.util.Set;
+import java.util.regex.Matcher;
+import java.util.regex.Pattern;
 
 /** The public face against the document's, and what a look at the class can tell of LANGUAGE.md. */
 public final class CrowdDeskFace {
@@ -19,7 +21,16 @@ public final class CrowdDeskFace {
     private static final Path DOCUMENT = Path.of("../shared/DOC.md");
     private static final String[] FORBIDDEN = {
         "->", "::", "finally", "synchronized", "assert ", "System.out", "System.nano", "System.current",
-        "Exact(", "getMessage", "hashCode", ".toString", "package ", "extends Exception", "Math.random"};
+        "Exact(", "getMessage", "hashCode", ".toString", "package ", "extends Exception", "Math.random",
+        "try {", "catch (", " equals(", "Thread", "static {", "\" +", "+ \""};
+    private static final Pattern THROWS =
+        Pattern.compile("throw new (IllegalState|IllegalArgument|IndexOutOfBounds)Exception\\(\"[^\"]+\"\\);");
+    private static final Pattern METHOD =
+        Pattern.compile("( {4}| {8})(?!if|for|while|switch)\\w[\\w\\[\\] ]*\\(.*\\)[\\w, ]* \\{");
+
+    private static final int MOST_PARAMETERS = 7;
+    private static final int MOST_FIELDS = 20;
+    private static final int MOST_LINES = 60;
 
     private static int wrong = 0;
 
@@ -33,7 +44,10 @@ public final class CrowdDeskFace {
     public static void main(String[] args) throws IOException {
         face();
         members();
+        sizes();
+        types();
         source();
+        throwsAndLengths();
         System.out.println(wrong == 0 ? "the face is the document's" : wrong + " things are not as due");
         if (wrong != 0) {
             System.exit(1);
@@ -118,12 +132,42 @@ public final class CrowdDeskFace {
         }
     }
 
+    private static List<Class<?>> allClasses() {
+        List<Class<?>> all = new ArrayList<>(List.of(CrowdDesk.class));
+        all.addAll(Arrays.asList(CrowdDesk.class.getDeclaredClasses()));
+        return all;
+    }
+
     private static List<Field> allFields() {
-        List<Field> all = new ArrayList<>(Arrays.asList(CrowdDesk.class.getDeclaredFields()));
-        for (Class<?> inside : CrowdDesk.class.getDeclaredClasses()) {
-            all.addAll(Arrays.asList(inside.getDeclaredFields()));
+        List<Field> all = new ArrayList<>();
+        for (Class<?> one : allClasses()) {
+            all.addAll(Arrays.asList(one.getDeclaredFields()));
         }
         return all;
+    }
+
+    private static void sizes() {
+        for (Class<?> one : allClasses()) {
+            long fields = allFields().stream()
+                .filter(field -> field.getDeclaringClass() == one && !Modifier.isStatic(field.getModifiers())).count();
+            due(one + " has few fields", fields <= MOST_FIELDS, true);
+            due(one + " has no classes inside", one == CrowdDesk.class || one.getDeclaredClasses().length == 0, true);
+            for (Method method : one.getDeclaredMethods()) {
+                due(method + " has few parameters", method.getParameterCount() <= MOST_PARAMETERS, true);
+            }
+        }
+    }
+
+    private static void types() {
+        for (Field field : allFields()) {
+            Class<?> type = field.getType();
+            Class<?> part = type.isArray() ? type.getComponentType() : type;
+            boolean own = allClasses().contains(part);
+            due(field + " has a type of LANGUAGE.md", part.isPrimitive() || own, true);
+            if (Modifier.isStatic(field.getModifiers())) {
+                due(field + " is a constant", Set.of(int.class, long.class).contains(type), true);
+            }
+        }
     }
 
     private static void source() throws IOException {
@@ -135,5 +179,24 @@ public final class CrowdDeskFace {
                 due("an import", line, "import java.util.Arrays;");
             }
         }
+    }
+
+    private static void throwsAndLengths() throws IOException {
+        List<String> lines = Files.readAllLines(SOURCE);
+        int methods = 0;
+        for (int at = 0; at < lines.size(); at++) {
+            String line = lines.get(at);
+            if (line.contains("throw ")) {
+                due("a throw as rule 6 says: " + line, THROWS.matcher(line.strip()).matches(), true);
+            }
+            Matcher method = METHOD.matcher(line);
+            if (method.matches()) {
+                methods++;
+                int end = lines.subList(at, lines.size()).indexOf(method.group(1) + "}");
+                due("a short method: " + line, end > 0 && end < MOST_LINES, true);
+            }
+        }
+        int declared = allClasses().stream().mapToInt(one -> one.getDeclaredMethods().length).sum();
+        due("all methods were found", methods >= declared, true);
     }
 }
